@@ -37,6 +37,7 @@ public final class PromiseTest {
         undoKeepsTheRest();
         save();
         restore();
+        fullHouse();
         Checks.end();
     }
 
@@ -347,6 +348,16 @@ public final class PromiseTest {
         // The house keeps 3 of 20 coins; 30 hundredths of 17 are 5.
         due("11.2: second of two", two.ofTeam(0, 2), 5);
         due("11.2: first of two", two.ofTeam(1, 2), 12);
+        PubQuizzes three = new PubQuizzes();
+        three.set(PubQuizzes.ENTRY, 100);
+        three.set(PubQuizzes.HOUSE, 0);
+        for (int i = 0; i < 3; i++) {
+            three.team();
+        }
+        Checks.round(three, 0, 1, 2, 3);
+        due("11.2: third of three", three.ofTeam(0, 2), 30);
+        due("11.2: second of three", three.ofTeam(1, 2), 90);
+        due("11.2: first of three", three.ofTeam(2, 2), 180);
         PubQuizzes five = Checks.withTeams(5);
         Checks.round(five, 0, 9, 8, 7, 6, 5);
         // The pot is 45: 13 for the second, 4 for the third.
@@ -395,6 +406,9 @@ public final class PromiseTest {
         due("11.6: sheets", quiz.ofTeam(1, 6), 129);
         due("11.7: told", quiz.ofTeam(1, 7), 128);
         due("11.6: no sheets", quiz.ofTeam(0, 6), 0);
+        Checks.key(quiz, 0, "0000000000");
+        quiz.mark(2, 1, 0, 0);
+        due("11.7: both told", quiz.ofTeam(1, 7), 129);
         due("11.8: entry", quiz.ofTeam(2, 8), 10);
         due("11: what 10", quiz.ofTeam(0, 10), BAD_VALUE);
         due("11: what -1", quiz.ofTeam(0, -1), BAD_VALUE);
@@ -438,6 +452,9 @@ public final class PromiseTest {
         below.joker(1, 0);
         Checks.round(below, 0, -20, -10);
         due("12.5: all below 0", below.ofRound(0, 5), 80);
+        PubQuizzes first = Checks.withTeams(2);
+        Checks.round(first, 0, 4, 3);
+        due("12.5: the first team's", first.ofRound(0, 5), 104);
     }
 
     // 13
@@ -473,6 +490,13 @@ public final class PromiseTest {
         due("13: team -1", quiz.sheet(-1, 0, 0), NO_SUCH);
         due("13: round 8", quiz.sheet(0, 8, 0), NO_SUCH);
         due("13: round MIN", quiz.sheet(0, MIN, 0), NO_SUCH);
+        Checks.hand(quiz, 1, 3, "0-2-------");
+        Checks.key(quiz, 3, "0030000000");
+        quiz.mark(0, 1, 3, 4);
+        int[] unlike = {104, 0, 104, 100, 2};
+        for (int what = 0; what < 5; what++) {
+            due("13: team 1, round 3", quiz.sheet(1, 3, what), unlike[what]);
+        }
         PubQuizzes worst = Checks.withTeams(2);
         worst.set(PubQuizzes.MINUS, 2);
         Checks.hand(worst, 0, 0, "1111111111");
@@ -629,6 +653,12 @@ public final class PromiseTest {
         Checks.key(quiz, 7, "0000000000");
         due("18: only fines and marks", quiz.most(0), 1006);
         due("18: a mark to come", quiz.most(2), 1010);
+        PubQuizzes last = Checks.withTeams(2);
+        for (int round = 0; round < 8; round += 2) {
+            Checks.key(last, round, "0000000000");
+        }
+        Checks.hand(last, 1, 7, "----------");
+        due("18: an open round before a sheet", last.most(1), 1050);
         due("18: team 3", quiz.most(3), NO_SUCH);
         due("18: team -1", quiz.most(-1), NO_SUCH);
         due("18: team MAX", quiz.most(MAX), NO_SUCH);
@@ -686,6 +716,20 @@ public final class PromiseTest {
         quiz.set(PubQuizzes.MINUS, 2);
         due("20: not looked at again", quiz.ifLooked(0), 992);
         due("20: no fine more", quiz.ifLooked(1), 1001);
+        PubQuizzes other = Checks.withTeams(3);
+        other.joker(2, 4);
+        Checks.hand(other, 2, 4, "00--------");
+        Checks.hand(other, 2, 0, "0---------");
+        Checks.hand(other, 1, 7, "0---------");
+        for (int round = 0; round < 8; round++) {
+            Checks.key(other, round, "0000000000");
+        }
+        other.mark(1, 2, 4, 7);
+        other.mark(0, 2, 0, 1);
+        other.mark(0, 1, 7, 0);
+        due("20: team 2, round 4", other.ifLooked(2), 1005);
+        due("20: team 1, round 7", other.ifLooked(1), 999);
+        due("20: one fine", other.ifLooked(0), 998);
         due("20: team 3", quiz.ifLooked(3), NO_SUCH);
         due("20: team -1", quiz.ifLooked(-1), NO_SUCH);
         due("20: team MIN", quiz.ifLooked(MIN), NO_SUCH);
@@ -713,6 +757,11 @@ public final class PromiseTest {
         due("21: not the one that was looked at", quiz.wrongMarks(), 1);
         quiz.mark(0, 2, 7, 7);
         due("21: a right one", quiz.wrongMarks(), 1);
+        PubQuizzes first = Checks.withTeams(2);
+        Checks.hand(first, 0, 0, "0---------");
+        Checks.key(first, 0, "0000000000");
+        first.mark(1, 0, 0, 0);
+        due("21: round 0", first.wrongMarks(), 1);
     }
 
     // 22
@@ -808,6 +857,9 @@ public final class PromiseTest {
     private static void undoKeepsTheRest() {
         PubQuizzes quiz = Checks.withTeams(2);
         quiz.joker(0, 0);
+        due("25: the joker is a change", quiz.undo(), 2);
+        due("25: the joker is back", quiz.ofTeam(0, 3), NONE);
+        quiz.joker(0, 0);
         Checks.hand(quiz, 0, 0, "0000000000");
         due("25: pad before", quiz.put('a'), 1);
         quiz.undo();
@@ -894,5 +946,80 @@ public final class PromiseTest {
         due("27: undone twice", quiz.count(0), 3);
         quiz.undo();
         due("27: before the first restoring", quiz.count(7), 1);
+        PubQuizzes entries = new PubQuizzes();
+        entries.set(PubQuizzes.ENTRY, 3);
+        entries.team();
+        entries.save(0);
+        entries.undo();
+        entries.undo();
+        entries.team();
+        due("27: another entry", entries.ofTeam(0, 8), 10);
+        entries.restore(0);
+        due("27: the entry that was paid", entries.ofTeam(0, 8), 3);
+    }
+
+    // All teams, all sheets, all marks wrong, all jokers: the greatest numbers that there are. The
+    // pad is not looked after here, so that the calls stay below 512.
+    private static void fullHouse() {
+        PubQuizzes quiz = new PubQuizzes();
+        quiz.set(PubQuizzes.ENTRY, 100);
+        quiz.set(PubQuizzes.HOUSE, 50);
+        quiz.set(PubQuizzes.MINUS, 2);
+        quiz.set(PubQuizzes.FINE, 9);
+        for (int team = 0; team < 10; team++) {
+            quiz.team();
+            quiz.joker(team, 7);
+            quiz.guess(team, 1000 * (9 - team));
+        }
+        for (int round = 0; round < 8; round++) {
+            for (int team = 0; team < 10; team++) {
+                quiz.put(Checks.number("11111111"));
+                quiz.put(Checks.number("11"));
+                quiz.hand(team, round);
+            }
+            quiz.put(Checks.number("00000000"));
+            quiz.put(Checks.number("00"));
+            quiz.key(round);
+            for (int team = 0; team < 10; team++) {
+                quiz.mark(team == 9 ? 0 : 9, team, round, 10);
+            }
+        }
+        due("all: tied", quiz.ofTeam(9, 9), 511);
+        due("all: wrong marks", quiz.wrongMarks(), 80);
+        due("all: if looked, 72 fines", quiz.ifLooked(9), 1000 - 180 - 648);
+        due("all: if looked, 8 fines", quiz.ifLooked(0), 1000 - 180 - 72);
+        due("all: if looked, no fines", quiz.ifLooked(4), 1000 - 180);
+        due("all: most", quiz.most(9), 1090);
+        due("all: can win", quiz.canWin(), 1023);
+        due("all: truth", quiz.truth(0), 10);
+        due("all: unlike scores", quiz.count(8), 1);
+        for (int team = 0; team < 10; team++) {
+            due("all: settled by the guesses", quiz.ofTeam(team, 1), 10 - team);
+        }
+        for (int team = 0; team < 10; team++) {
+            for (int round = 0; round < 8; round++) {
+                due("all: look", quiz.look(team, round), 1);
+            }
+        }
+        due("all: fines", quiz.count(5), 80);
+        due("all: looks", quiz.count(6), 80);
+        due("all: the least score", quiz.ofTeam(9, 0), 172);
+        due("all: first", quiz.at(0), 8);
+        due("all: last", quiz.at(9), 9);
+        due("all: pot", quiz.count(3), 500);
+        due("all: first prize", quiz.ofTeam(8, 2), 300);
+        due("all: no prize", quiz.ofTeam(9, 2), 0);
+        due("all: best joker", quiz.bestJoker(9, 0), 0);
+        due("all: best joker", quiz.bestJoker(9, 1), 172);
+        due("all: sheets", quiz.ofRound(7, 1), 1023);
+        due("all: jokers", quiz.ofRound(7, 2), 1023);
+        due("all: told", quiz.ofRound(7, 3), 1023);
+        due("all: looked at", quiz.ofRound(7, 4), 1023);
+        due("all: points", quiz.ofRound(7, 5), 60);
+        due("all: rounds", quiz.ofTeam(9, 6), 255);
+        due("all: rounds told", quiz.ofTeam(9, 7), 255);
+        due("all: no team 10", quiz.ofTeam(10, 0), NO_SUCH);
+        due("all: eight can win, whatever they guessed", quiz.canWin(), 510);
+        due("all: no wrong marks", quiz.wrongMarks(), 0);
     }
 }
