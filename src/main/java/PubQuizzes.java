@@ -287,9 +287,7 @@ public final class PubQuizzes {
     public int canWin() {
         int winners = 0;
         for (int team = 0; team < now.teams; team++) {
-            if (now.greatestScore(team) >= now.bestOfOthers(team)) {
-                winners |= 1 << team;
-            }
+            winners |= now.canReachOthers(team) ? 1 << team : 0;
         }
         return winners;
     }
@@ -893,15 +891,14 @@ public final class PubQuizzes {
             return canPutJoker ? score + BEST_MARK : score;
         }
 
-        /** The greatest score of the other teams; without any, one that no team is below. */
-        int bestOfOthers(int team) {
-            int best = Integer.MIN_VALUE;
+        boolean canReachOthers(int team) {
+            int greatest = greatestScore(team);
             for (int other = 0; other < teams; other++) {
-                if (other != team) {
-                    best = Math.max(best, scoreOf(other));
+                if (other != team && scoreOf(other) > greatest) {
+                    return false;
                 }
             }
-            return best;
+            return true;
         }
 
         int scoreIfLooked(int team) {
