@@ -9,6 +9,7 @@ public final class PubQuizzes {
     public static final int NO_SUCH = -1, BAD_VALUE = -2, BAD_TEXT = -3, TOO_MANY = -4, NOT_POSSIBLE = -5, NONE = -6;
     public static final int ENTRY = 0, HOUSE = 1, MINUS = 2, FINE = 3;
 
+    private static final int SETTINGS = 4;
     private static final int TEAMS = 10;
     private static final int ROUNDS = 8;
     private static final int QUESTIONS = 10;
@@ -42,7 +43,7 @@ public final class PubQuizzes {
     // ---- changes
 
     public int set(int setting, int value) {
-        if (setting < ENTRY || setting > FINE || value < LEAST[setting] || value > GREATEST[setting]) {
+        if (setting < 0 || setting >= SETTINGS || value < LEAST[setting] || value > GREATEST[setting]) {
             return BAD_VALUE;
         }
         history.record(now);
@@ -385,11 +386,11 @@ public final class PubQuizzes {
         private static final int BITS = 4;
 
         static int signAt(long signs, int question) {
-            return (int) (signs >>> BITS * question) & 15;
+            return (int) (signs >>> (BITS * question)) & 15;
         }
 
         static long withSign(long signs, int question, int sign) {
-            return signs | (long) sign << BITS * question;
+            return signs | ((long) sign << (BITS * question));
         }
     }
 
@@ -556,7 +557,7 @@ public final class PubQuizzes {
             if (from == null || to == null) {
                 return;
             }
-            System.arraycopy(from.settings, 0, to.settings, 0, FINE + 1);
+            System.arraycopy(from.settings, 0, to.settings, 0, SETTINGS);
             System.arraycopy(from.paid, 0, to.paid, 0, TEAMS);
             System.arraycopy(from.jokers, 0, to.jokers, 0, TEAMS);
             System.arraycopy(from.fines, 0, to.fines, 0, TEAMS);
@@ -589,7 +590,7 @@ public final class PubQuizzes {
         }
 
         boolean isLooked(int team, int round) {
-            return (looked[round] & 1 << team) != 0;
+            return (looked[round] & (1 << team)) != 0;
         }
 
         int markerOf(int team, int round) {
@@ -794,7 +795,7 @@ public final class PubQuizzes {
 
         /** How many teams of a set have lower numbers than a team. */
         private static int lowerIn(int set, int team) {
-            return Integer.bitCount(set & (1 << team) - 1);
+            return Integer.bitCount(set & ((1 << team) - 1));
         }
 
         /** The place of a team, from 0. */

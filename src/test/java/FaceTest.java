@@ -5,6 +5,7 @@ import java.lang.reflect.Method;
 import java.lang.reflect.Modifier;
 import java.nio.file.Files;
 import java.nio.file.Path;
+import java.util.ArrayList;
 import java.util.HashMap;
 import java.util.List;
 import java.util.Map;
@@ -27,8 +28,11 @@ public final class FaceTest {
         constants();
         members();
         nestedClasses();
+        sizes();
         words();
         names();
+        lengths();
+        depths();
         Checks.end();
     }
 
@@ -74,9 +78,63 @@ public final class FaceTest {
         }
     }
 
+    /** At most seven parameters, and some twenty fields beside the constants. */
+    private static void sizes() {
+        List<Class<?>> classes = new ArrayList<>(List.of(PubQuizzes.class.getDeclaredClasses()));
+        classes.add(PubQuizzes.class);
+        for (Class<?> each : classes) {
+            for (Method method : each.getDeclaredMethods()) {
+                isTrue("parameters of " + method, method.getParameterCount() <= 7);
+            }
+            long fields = List.of(each.getDeclaredFields()).stream().filter(f -> !Modifier.isStatic(f.getModifiers())).count();
+            isTrue("fields of " + each, fields <= 20);
+        }
+    }
+
+    /** The program without its comments. */
+    private static String code() throws IOException {
+        return Files.readString(Path.of(SOURCE)).replaceAll("(?s)/\\*.*?\\*/", "").replaceAll("//.*", "");
+    }
+
+    /** Each method of the program with its text; methods of the same name count as one. */
+    private static Map<String, String> bodies() throws IOException {
+        Map<String, String> bodies = new HashMap<>();
+        Matcher method = Pattern.compile("(?ms)^( {4}| {8})(?:\\w+ )*\\w+(?:\\[\\])? (\\w+)\\([^()]*\\) \\{\\n(.*?)^\\1\\}$")
+            .matcher(code());
+        while (method.find()) {
+            bodies.merge(method.group(2), method.group(3), (first, second) -> first + second);
+        }
+        return bodies;
+    }
+
+    private static void lengths() throws IOException {
+        Map<String, String> bodies = bodies();
+        isTrue("methods are found in " + SOURCE, bodies.keySet().containsAll(List.of(METHODS.replaceAll("[0-9]", "").split(" "))));
+        bodies.forEach((name, body) -> isTrue("length of " + name, body.lines().count() <= 60));
+    }
+
+    /** Calls go at most eight deep; one that comes back to itself would go deeper than any. */
+    private static void depths() throws IOException {
+        Map<String, String> bodies = bodies();
+        for (String name : bodies.keySet()) {
+            isTrue("calls from " + name + " are at most eight deep", depth(bodies, name, 0) <= 8);
+        }
+    }
+
+    private static int depth(Map<String, String> bodies, String name, int above) {
+        int deepest = above + 1;
+        Matcher call = Pattern.compile("\\b(\\w+)\\(").matcher(bodies.get(name));
+        while (deepest <= 8 && call.find()) {
+            if (bodies.containsKey(call.group(1))) {
+                deepest = Math.max(deepest, depth(bodies, call.group(1), above + 1));
+            }
+        }
+        return deepest;
+    }
+
     /** Words that the rules of the language leave out. */
     private static void words() throws IOException {
-        String code = Files.readString(Path.of(SOURCE)).replaceAll("(?s)/\\*.*?\\*/", "").replaceAll("//.*", "");
+        String code = code();
         for (String word : FORBIDDEN) {
             String edge = Character.isLetter(word.charAt(0)) ? "\\b" : "";
             isTrue("without " + word, !Pattern.compile(edge + Pattern.quote(word) + edge).matcher(code).find());
